@@ -519,18 +519,18 @@ public final class RouteFrame {
         }
 
         boolean holds(int k) {
-            return (held & 1 << k) != 0;
+            return (held & (1 << k)) != 0;
         }
 
         boolean isRunOver(int k) {
-            return (runOver & 1 << k) != 0;
+            return (runOver & (1 << k)) != 0;
         }
 
         /** Whether some of these uses and a use of the other route cannot be at the same time. */
         boolean disagrees(int uses, Route other) {
             for (int k = 0; k < useCount; k++) {
                 int j = other.useOf(useSection[k]);
-                boolean shared = (uses & 1 << k) != 0 && j != NONE;
+                boolean shared = (uses & (1 << k)) != 0 && j != NONE;
                 if (shared && (isPass(k) && other.isPass(j) || positionOf(k) != other.positionOf(j))) {
                     return true;
                 }

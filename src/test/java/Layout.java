@@ -1,3 +1,5 @@
+import java.util.Arrays;
+
 /** Frames that several tests begin with. */
 final class Layout {
     static final int FREE = 0;
@@ -44,6 +46,25 @@ final class Layout {
         frame.route(1, RouteFrame.NONE, 2);
         frame.use(1, 1, 2);
         frame.use(1, 3, 0);
+        return frame;
+    }
+
+    /**
+     * As many sections, routes and uses as there may be. Sections 0 to 5 are plain, 6 to 11 have points. Route r of 0
+     * to 5 has signal r and passes section r; route 6 of signal 0 has no uses; route 7 of signal 1 passes 6 to 11 with
+     * points in 1. Approaches are the sections of the routes' own numbers, but route 7 has none, and delay 9.
+     */
+    static RouteFrame full() {
+        boolean[] points = new boolean[12];
+        Arrays.fill(points, 6, 12, true);
+        RouteFrame frame = sections(points);
+        for (int r = 0; r < 8; r++) {
+            frame.route(r % 6, r == 7 ? RouteFrame.NONE : r, 9);
+        }
+        for (int r = 0; r < 6; r++) {
+            frame.use(r, r, 0);
+            frame.use(7, r + 6, 2);
+        }
         return frame;
     }
 

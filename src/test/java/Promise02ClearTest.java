@@ -2,6 +2,7 @@ public final class Promise02ClearTest {
     public static void main(String[] args) {
         everythingGoes();
         numbersBeginAnewWithFreshState();
+        aTakenRouteGoes();
         clearOfNothing();
         Check.end();
     }
@@ -18,12 +19,13 @@ public final class Promise02ClearTest {
     private static void numbersBeginAnewWithFreshState() {
         RouteFrame frame = Layout.junction();
         frame.request(1);
-        frame.breakPoints(1, true);
         frame.tick(3);
+        frame.breakPoints(1, true);
         frame.breakPoints(4, true);
         frame.move(4, 1);
+        frame.cancel(1);
         frame.occupy(0);
-        frame.occupy(3);
+        Check.is("an old timer", frame.about(1, Layout.TIMER), 2);
         frame.clear();
         // Other kinds than before under the same numbers, so that nothing old can shine through.
         RouteFrame fresh = new RouteFrame();
@@ -44,6 +46,19 @@ public final class Promise02ClearTest {
         Check.is("request after clear", frame.request(0), 0);
         Check.is("held after clear", frame.about(0, Layout.HELD), 1);
         Check.is("off(1) after clear", frame.off(1), true);
+    }
+
+    private static void aTakenRouteGoes() {
+        RouteFrame frame = Layout.line();
+        frame.request(0);
+        frame.occupy(0);
+        frame.clear();
+        Check.is("section after clear", frame.section(false), 0);
+        Check.is("route after clear", frame.route(0, RouteFrame.NONE, 1), 0);
+        Check.is("occupied after clear", frame.track(0, Layout.OCCUPIED), 0);
+        for (int what = 0; what <= 4; what++) {
+            Check.is("about(0, " + what + ") after clear", frame.about(0, what), 0);
+        }
     }
 
     private static void clearOfNothing() {

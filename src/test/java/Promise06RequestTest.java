@@ -8,6 +8,7 @@ public final class Promise06RequestTest {
         sharedPointsInTheSamePosition();
         refusedWhenOccupied();
         refusedWhenPointsCannotMove();
+        refusedForAFlankWhereverItStands();
         orderOfRefusals();
         pointsAlreadyOnTheWayGoOn();
         wrongInputs();
@@ -145,6 +146,24 @@ public final class Promise06RequestTest {
         frame.occupy(4);
         Check.is("occupied on the way to the position", frame.request(0), 0);
         Check.is("still on the way", frame.track(4, Layout.LIE), -1);
+    }
+
+    private static void refusedForAFlankWhereverItStands() {
+        for (int place = 0; place <= 2; place++) {
+            RouteFrame frame = Layout.sections(true, false, false);
+            frame.route(0, RouteFrame.NONE, 1);
+            for (int k = 0; k <= 2; k++) {
+                if (k == place) {
+                    frame.use(0, 0, 4);
+                } else {
+                    frame.use(0, k < place ? k + 1 : k, 0);
+                }
+            }
+            frame.occupy(0);
+            Check.is("an occupied flank as use " + place, frame.request(0), 4);
+            frame.vacate(0);
+            Check.is("a clear flank as use " + place, frame.request(0), 0);
+        }
     }
 
     private static void orderOfRefusals() {

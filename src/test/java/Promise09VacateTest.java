@@ -5,6 +5,7 @@ public final class Promise09VacateTest {
         stopsAtTheFirstThatIsNotSo();
         flanksStayUntilTheEnd();
         allRoutesThatAreTaken();
+        aFullFrame();
         wrongInputs();
         Check.end();
     }
@@ -92,6 +93,21 @@ public final class Promise09VacateTest {
         Check.is("the timed one stays", frame.about(0, Layout.STATE), Layout.TIMED);
         Check.is("the one whose section is occupied stays", frame.about(1, Layout.STATE), Layout.TAKEN);
         Check.is("the one that is vacated is free", frame.about(2, Layout.STATE), Layout.FREE);
+    }
+
+    private static void aFullFrame() {
+        RouteFrame frame = Layout.full();
+        Check.is("request(7)", frame.request(7), 0);
+        frame.tick(3);
+        Check.is("off(1)", frame.off(1), true);
+        int held = 63;
+        for (int s = 6; s < 12; s++) {
+            frame.occupy(s);
+            frame.vacate(s);
+            held -= 1 << (s - 6);
+            Check.is("held behind " + s, frame.about(7, Layout.HELD), held);
+        }
+        Check.is("free", frame.about(7, Layout.STATE), Layout.FREE);
     }
 
     private static void wrongInputs() {

@@ -5,6 +5,7 @@ public final class Promise12TickTest {
         eachTimerForItself();
         pointsMoveWhateverHoldsThem();
         mayApproach();
+        aFullFrame();
         wrongInputs();
         Check.end();
     }
@@ -86,6 +87,20 @@ public final class Promise12TickTest {
         frame.tick(1);
         Check.is("approached when they lie", frame.about(1, Layout.APPROACHED), 1);
         Check.is("off", frame.off(1), true);
+    }
+
+    private static void aFullFrame() {
+        RouteFrame frame = Layout.full();
+        frame.request(7);
+        frame.tick(3);
+        for (int s = 6; s < 12; s++) {
+            Check.is("points of " + s, frame.track(s, Layout.LIE), 1);
+        }
+        Check.is("cancel(7)", frame.cancel(7), 1);
+        frame.tick(8);
+        Check.is("timer of the last route", frame.about(7, Layout.TIMER), 1);
+        frame.tick(1);
+        Check.is("the last route is free", frame.about(7, Layout.STATE), Layout.FREE);
     }
 
     private static void wrongInputs() {
