@@ -1,8 +1,20 @@
 /** What the tests compare with: prints every answer that is not the one due and counts it. */
 final class Check {
     private static int wrong = 0;
+    private static String sentence = "";
 
     private Check() {
+    }
+
+    /** One test of its own for one sentence of the document; its failures are told under that sentence. */
+    static void that(String itsSentence, Runnable test) {
+        sentence = itsSentence;
+        try {
+            test.run();
+        } catch (RuntimeException e) {
+            report("the test was ended by " + e);
+        }
+        sentence = "";
     }
 
     static void is(String what, int got, int due) {
@@ -26,6 +38,12 @@ final class Check {
     /** The call throws just this exception and leaves all that can be seen of the frame as it was. */
     static void refuses(String what, Class<? extends RuntimeException> due, RouteFrame frame, Runnable call) {
         String before = Snapshot.of(frame);
+        raises(what, due, call);
+        is("what is seen after " + what, Snapshot.of(frame), before);
+    }
+
+    /** The call throws just this exception. */
+    static void raises(String what, Class<? extends RuntimeException> due, Runnable call) {
         Class<?> got = null;
         try {
             call.run();
@@ -36,7 +54,6 @@ final class Check {
             report(what + " threw " + (got == null ? "nothing" : got.getSimpleName())
                     + ", due is " + due.getSimpleName());
         }
-        is("what is seen after " + what, Snapshot.of(frame), before);
     }
 
     static void refusesIndex(String what, RouteFrame frame, Runnable call) {
@@ -51,9 +68,21 @@ final class Check {
         refuses(what, IllegalStateException.class, frame, call);
     }
 
+    static void raisesIndex(String what, Runnable call) {
+        raises(what, IndexOutOfBoundsException.class, call);
+    }
+
+    static void raisesArgument(String what, Runnable call) {
+        raises(what, IllegalArgumentException.class, call);
+    }
+
+    static void raisesState(String what, Runnable call) {
+        raises(what, IllegalStateException.class, call);
+    }
+
     static void report(String text) {
         wrong++;
-        System.out.println(text);
+        System.out.println(sentence.isEmpty() ? text : "\"" + sentence + "\": " + text);
     }
 
     static void end() {

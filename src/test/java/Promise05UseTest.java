@@ -1,17 +1,27 @@
 public final class Promise05UseTest {
     public static void main(String[] args) {
-        usesInTheirOrder();
-        wrongInputs();
-        theSameSectionAgain();
-        atMostSix();
-        onlyWhileAllAreFree();
-        orderOfExceptions();
+        Check.that("A route gets another use.", Promise05UseTest::usesInTheirOrder);
+        Check.that("A route gets another use. (and no other route)", Promise05UseTest::onlyThatRoute);
+        Check.that("IndexOutOfBoundsException when there is no such route", Promise05UseTest::noSuchRoute);
+        Check.that("IndexOutOfBoundsException when there is no such section", Promise05UseTest::noSuchSection);
+        Check.that("IllegalArgumentException when how is none of 0 .. 4", Promise05UseTest::wrongHow);
+        Check.that("does not fit the section (0 with points", Promise05UseTest::zeroWithPoints);
+        Check.that("does not fit the section (.. another one without)", Promise05UseTest::anotherWithoutPoints);
+        Check.that("or the route uses it already", Promise05UseTest::theSameSectionAgain);
+        Check.that("or the route uses it already (another route may)", Promise05UseTest::anotherRouteMay);
+        Check.that("IllegalStateException when it has 6 uses", Promise05UseTest::atMostSix);
+        Check.that("IllegalStateException when it has 6 uses (another may have them too)", Promise05UseTest::sixEach);
+        Check.that("or any route is not free. (SET)", Promise05UseTest::oneIsSet);
+        Check.that("or any route is not free. (TAKEN)", Promise05UseTest::oneIsTaken);
+        Check.that("or any route is not free. (TIMED)", Promise05UseTest::oneIsTimed);
+        Check.that("or any route is not free. (the first or the last of 8)", Promise05UseTest::anyOfEight);
+        Check.that("or any route is not free. (all are free again)", Promise05UseTest::allAreFreeAgain);
         Check.end();
     }
 
     private static void usesInTheirOrder() {
         RouteFrame frame = Layout.sections(true, true, false, true, true);
-        frame.route(0, RouteFrame.NONE, 1);
+        frame.route(0, Layout.NONE, 1);
         frame.use(0, 3, 4);
         frame.use(0, 2, 0);
         frame.use(0, 0, 2);
@@ -20,7 +30,7 @@ public final class Promise05UseTest {
         Check.is("request", frame.request(0), 0);
         Check.is("held", frame.about(0, Layout.HELD), 31);
         int[] wanted = {1, 0, 0, 1, 0};
-        int[] passHolder = {0, 0, 0, RouteFrame.NONE, RouteFrame.NONE};
+        int[] passHolder = {0, 0, 0, Layout.NONE, Layout.NONE};
         int[] flankHolders = {0, 0, 0, 1, 1};
         for (int s = 0; s < 5; s++) {
             Check.is("wanted of " + s, frame.track(s, Layout.WANTED), wanted[s]);
@@ -31,106 +41,191 @@ public final class Promise05UseTest {
         Check.is("the third use is run over", frame.about(0, Layout.RUN_OVER), 4);
     }
 
-    private static void wrongInputs() {
-        int big = Integer.MAX_VALUE;
-        int small = Integer.MIN_VALUE;
-        for (int none : new int[] {-1, 3, small, big}) {
-            RouteFrame frame = oneUse();
+    private static void onlyThatRoute() {
+        RouteFrame frame = Layout.plainSections(2);
+        frame.route(0, Layout.NONE, 1);
+        frame.route(1, Layout.NONE, 1);
+        frame.route(2, Layout.NONE, 1);
+        frame.use(1, 0, 0);
+        Check.is("the one before has none", frame.request(0), 1);
+        Check.is("the one behind has none", frame.request(2), 1);
+        Check.is("the one has one", frame.request(1), 0);
+    }
+
+    private static void noSuchRoute() {
+        for (int none : Outside.of(0, 1)) {
+            RouteFrame frame = Layout.junction();
+            Check.refusesIndex("use by route " + none, frame, () -> frame.use(none, 3, 0));
+        }
+        for (int none : Outside.of(0, 7)) {
+            RouteFrame frame = Layout.full();
+            Check.raisesIndex("use by route " + none + " of 8", () -> frame.use(none, 0, 0));
+        }
+    }
+
+    private static void noSuchSection() {
+        for (int none : Outside.of(0, 4)) {
+            RouteFrame frame = Layout.junction();
             Check.refusesIndex("use of section " + none, frame, () -> frame.use(0, none, 0));
+            Check.raisesIndex("use of points " + none, () -> frame.use(0, none, 1));
         }
-        for (int none : new int[] {-1, 1, small, big}) {
-            RouteFrame frame = oneUse();
-            Check.refusesIndex("use by route " + none, frame, () -> frame.use(none, 1, 1));
+        for (int none : Outside.of(0, 11)) {
+            RouteFrame frame = Layout.full();
+            Check.raisesIndex("use of section " + none + " of 12", () -> frame.use(6, none, 0));
         }
-        for (int how : new int[] {-1, 0, 5, small, big}) {
+    }
+
+    private static void wrongHow() {
+        for (int how : Outside.of(0, 4)) {
+            for (int section = 1; section <= 2; section++) {
+                int used = section;
+                RouteFrame frame = oneUse();
+                Check.refusesArgument("how " + how + " of " + section, frame, () -> frame.use(0, used, how));
+                frame.request(0);
+                Check.is("uses after how " + how, frame.about(0, Layout.HELD), 1);
+            }
+        }
+    }
+
+    private static void zeroWithPoints() {
+        RouteFrame frame = oneUse();
+        Check.refusesArgument("how 0 with points", frame, () -> frame.use(0, 1, 0));
+        for (int how = 1; how <= 4; how++) {
+            RouteFrame other = oneUse();
+            other.use(0, 1, how);
+            Check.is("request with how " + how, other.request(0), 0);
+            Check.is("held with how " + how, other.about(0, Layout.HELD), 3);
+        }
+        frame.request(0);
+        Check.is("uses after how 0", frame.about(0, Layout.HELD), 1);
+    }
+
+    private static void anotherWithoutPoints() {
+        for (int how = 1; how <= 4; how++) {
+            int wrong = how;
             RouteFrame frame = oneUse();
-            Check.refusesArgument("how " + how + " with points", frame, () -> frame.use(0, 1, how));
+            Check.refusesArgument("how " + how + " without points", frame, () -> frame.use(0, 2, wrong));
+            frame.use(0, 2, 0);
             frame.request(0);
-            Check.is("uses after how " + how, frame.about(0, Layout.HELD), 1);
-        }
-        for (int how : new int[] {-1, 1, 2, 3, 4, 5, small, big}) {
-            RouteFrame frame = oneUse();
-            Check.refusesArgument("how " + how + " without points", frame, () -> frame.use(0, 2, how));
-            frame.request(0);
-            Check.is("uses after how " + how, frame.about(0, Layout.HELD), 1);
+            Check.is("uses after how " + how + " and 0", frame.about(0, Layout.HELD), 3);
         }
     }
 
     private static void theSameSectionAgain() {
         RouteFrame plain = oneUse();
         Check.refusesArgument("the same section again", plain, () -> plain.use(0, 0, 0));
-        for (int how : new int[] {1, 2, 3, 4}) {
-            RouteFrame frame = oneUse();
-            frame.use(0, 1, 4);
-            Check.refusesArgument("the same points again as " + how, frame, () -> frame.use(0, 1, how));
-            frame.request(0);
-            Check.is("uses after points again", frame.about(0, Layout.HELD), 3);
-            Check.is("as first said", frame.track(1, Layout.FLANK_HOLDERS), 1);
+        plain.request(0);
+        Check.is("uses after a section again", plain.about(0, Layout.HELD), 1);
+        for (int first = 1; first <= 4; first++) {
+            for (int how = 1; how <= 4; how++) {
+                int again = how;
+                RouteFrame frame = oneUse();
+                frame.use(0, 1, first);
+                frame.use(0, 2, 0);
+                Check.refusesArgument("points again as " + how, frame, () -> frame.use(0, 1, again));
+                frame.request(0);
+                Check.is("uses after points again", frame.about(0, Layout.HELD), 7);
+                Check.is("wanted as first said", frame.track(1, Layout.WANTED), (first - 1) % 2);
+                Check.is("held as first said", frame.track(1, Layout.FLANK_HOLDERS), first <= 2 ? 0 : 1);
+            }
         }
+        for (int s = 0; s < 5; s++) {
+            int again = s;
+            RouteFrame frame = Layout.plainSections(5);
+            frame.route(0, Layout.NONE, 1);
+            for (int k = 0; k < 5; k++) {
+                frame.use(0, k, 0);
+            }
+            Check.refusesArgument("use " + s + " of 5 again", frame, () -> frame.use(0, again, 0));
+        }
+    }
+
+    private static void anotherRouteMay() {
+        RouteFrame frame = oneUse();
+        frame.route(1, Layout.NONE, 1);
+        frame.use(1, 0, 0);
+        Check.is("request of another route with that use", frame.request(1), 0);
     }
 
     /** Sections 0 (plain, passed by route 0), 1 (points), 2 (plain). */
     private static RouteFrame oneUse() {
         RouteFrame frame = Layout.sections(false, true, false);
-        frame.route(0, RouteFrame.NONE, 1);
+        frame.route(0, Layout.NONE, 1);
         frame.use(0, 0, 0);
         return frame;
     }
 
     private static void atMostSix() {
-        RouteFrame frame = Layout.sections(false, false, false, false, false, false, false);
-        frame.route(0, RouteFrame.NONE, 1);
-        for (int s = 0; s < 6; s++) {
-            frame.use(0, s, 0);
-        }
-        Check.refusesState("a 7th use", frame, () -> frame.use(0, 6, 0));
-        frame.route(1, RouteFrame.NONE, 1);
-        frame.use(1, 6, 0);
-        frame.request(0);
+        RouteFrame frame = Layout.sixUses();
+        Check.refusesState("a 7th use", frame, () -> frame.use(0, 6, 1));
+        Check.is("request", frame.request(0), 0);
         Check.is("six uses are held", frame.about(0, Layout.HELD), 63);
-        Check.is("the 7th section is not", frame.track(6, Layout.PASS_HOLDER), RouteFrame.NONE);
+        Check.is("the 7th section is not passed", frame.track(6, Layout.PASS_HOLDER), Layout.NONE);
     }
 
-    private static void onlyWhileAllAreFree() {
-        RouteFrame frame = Layout.line();
-        frame.section(false);
-        frame.route(1, RouteFrame.NONE, 1);
-        frame.request(0);
-        Check.refusesState("use while another is set", frame, () -> frame.use(1, 3, 0));
-        Check.refusesState("use by a set route", frame, () -> frame.use(0, 3, 0));
-        frame.cancel(0);
-        Check.refusesState("use while another is timed", frame, () -> frame.use(1, 3, 0));
-        frame.occupy(0);
-        Check.refusesState("use while another is taken", frame, () -> frame.use(1, 3, 0));
-        frame.occupy(1);
-        frame.occupy(2);
-        frame.vacate(0);
-        frame.vacate(1);
-        frame.vacate(2);
-        frame.use(1, 3, 0);
-        Check.is("request with the use made when all were free again", frame.request(1), 0);
-    }
-
-    private static void orderOfExceptions() {
-        RouteFrame frame = sixUses();
-        Check.refusesArgument("how before a 7th use", frame, () -> frame.use(0, 6, 0));
-        Check.refusesArgument("the same section before a 7th use", frame, () -> frame.use(0, 0, 0));
-        RouteFrame other = sixUses();
-        Check.refusesIndex("section before how", other, () -> other.use(0, 7, 9));
-        Check.refusesIndex("route before how", other, () -> other.use(1, 0, 9));
-        RouteFrame set = sixUses();
-        set.request(0);
-        Check.refusesArgument("how before a route that is not free", set, () -> set.use(0, 6, 5));
-        Check.refusesIndex("section before a route that is not free", set, () -> set.use(0, 7, 0));
-    }
-
-    /** Plain sections 0 to 5, passed by route 0, and 6 (points). */
-    private static RouteFrame sixUses() {
-        RouteFrame frame = Layout.sections(false, false, false, false, false, false, true);
-        frame.route(0, RouteFrame.NONE, 1);
-        for (int s = 0; s < 6; s++) {
-            frame.use(0, s, 0);
+    private static void sixEach() {
+        RouteFrame frame = Layout.plainSections(7);
+        for (int r = 0; r < 8; r++) {
+            int route = r;
+            frame.route(r % 6, Layout.NONE, 1);
+            for (int s = 0; s < 6; s++) {
+                frame.use(r, s, 0);
+            }
+            Check.raisesState("a 7th use of " + r, () -> frame.use(route, 6, 0));
         }
-        return frame;
+        Check.is("request of the last", frame.request(7), 0);
+        Check.is("held by the last", frame.about(7, Layout.HELD), 63);
+    }
+
+    private static void oneIsSet() {
+        RouteFrame frame = Layout.oneEach(2);
+        frame.section(false);
+        frame.request(0);
+        Check.refusesState("use by another", frame, () -> frame.use(1, 2, 0));
+        Check.refusesState("use by the set one", frame, () -> frame.use(0, 2, 0));
+    }
+
+    private static void oneIsTaken() {
+        RouteFrame frame = Layout.oneEach(2);
+        frame.section(false);
+        frame.request(0);
+        frame.occupy(0);
+        Check.refusesState("use by another", frame, () -> frame.use(1, 2, 0));
+        Check.refusesState("use by the taken one", frame, () -> frame.use(0, 2, 0));
+    }
+
+    private static void oneIsTimed() {
+        RouteFrame frame = Layout.oneEach(2);
+        frame.section(false);
+        frame.request(0);
+        frame.cancel(0);
+        Check.is("timed", frame.about(0, Layout.STATE), Layout.TIMED);
+        Check.refusesState("use by another", frame, () -> frame.use(1, 2, 0));
+        Check.refusesState("use by the timed one", frame, () -> frame.use(0, 2, 0));
+    }
+
+    private static void anyOfEight() {
+        for (int busy : new int[] {0, 7}) {
+            RouteFrame frame = Layout.full();
+            frame.request(busy);
+            Check.refusesState("use while " + busy + " is set", frame, () -> frame.use(6, 1, 0));
+        }
+    }
+
+    private static void allAreFreeAgain() {
+        RouteFrame frame = Layout.oneEach(3);
+        frame.section(false);
+        frame.request(0);
+        frame.request(1);
+        frame.cancel(1);
+        frame.occupy(0);
+        frame.vacate(0);
+        Check.raisesState("while one is still timed", () -> frame.use(2, 3, 0));
+        frame.tick(4);
+        Check.raisesState("before its last tick", () -> frame.use(2, 3, 0));
+        frame.tick(1);
+        frame.use(2, 3, 0);
+        frame.request(2);
+        Check.is("held with the use made then", frame.about(2, Layout.HELD), 3);
     }
 }

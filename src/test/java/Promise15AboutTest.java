@@ -1,80 +1,167 @@
 public final class Promise15AboutTest {
     public static void main(String[] args) {
-        throughARoutesLife();
-        approachedFromThenOn();
-        notApproachedWhileTheSignalIsOn();
-        wrongInputs();
+        Check.that("what = 0 whether it is FREE, SET, TAKEN or TIMED (0 .. 3)", Promise15AboutTest::state);
+        Check.that("1 its timer", Promise15AboutTest::timer);
+        Check.that("1 its timer (0 when it is not TIMED)", Promise15AboutTest::noTimer);
+        Check.that("2 whether it is approached (1 or 0)", Promise15AboutTest::approached);
+        Check.that("3 its uses that it holds, as the sum of 2^k (k from 0, in their order)", Promise15AboutTest::held);
+        Check.that("3 its uses that it holds (none, or all 6)", Promise15AboutTest::noneOrAllHeld);
+        Check.that("4 of these those that are run over.", Promise15AboutTest::runOver);
+        Check.that("4 of these (not what was let go)", Promise15AboutTest::runOverAndLetGo);
+        Check.that("Of a route (of each for itself)", Promise15AboutTest::ofEach);
+        Check.that("Of a route (asking changes nothing)", Promise15AboutTest::askingChangesNothing);
+        Check.that("IndexOutOfBoundsException when there is no such route", Promise15AboutTest::noSuchRoute);
+        Check.that("IllegalArgumentException when what is none of these.", Promise15AboutTest::noSuchWhat);
         Check.end();
     }
 
-    private static void throughARoutesLife() {
-        RouteFrame frame = Layout.junction();
-        expect(frame, "free", 0, 0, 0, 0, 0);
+    private static void state() {
+        RouteFrame frame = Layout.line();
+        Check.is("free", frame.about(0, 0), 0);
         frame.request(0);
-        expect(frame, "set", 1, 0, 0, 7, 0);
-        frame.occupy(0);
-        expect(frame, "approached", 1, 0, 1, 7, 0);
+        Check.is("set", frame.about(0, 0), 1);
         frame.cancel(0);
-        expect(frame, "timed", 3, 3, 1, 7, 0);
+        Check.is("timed", frame.about(0, 0), 3);
+        frame.occupy(0);
+        Check.is("taken", frame.about(0, 0), 2);
+    }
+
+    private static void timer() {
+        RouteFrame frame = Layout.line();
+        frame.request(0);
+        frame.cancel(0);
+        Check.is("at once", frame.about(0, 1), 4);
+        frame.tick(1);
+        Check.is("after a tick", frame.about(0, 1), 3);
         frame.tick(2);
-        expect(frame, "timed, after 2 ticks", 3, 1, 1, 7, 0);
+        Check.is("after 3 ticks", frame.about(0, 1), 1);
+    }
+
+    private static void noTimer() {
+        RouteFrame frame = Layout.line();
+        Check.is("free", frame.about(0, 1), 0);
+        frame.request(0);
+        Check.is("set", frame.about(0, 1), 0);
+        frame.cancel(0);
+        frame.tick(1);
+        frame.occupy(0);
+        Check.is("taken", frame.about(0, 1), 0);
         frame.occupy(1);
-        expect(frame, "taken", 2, 0, 1, 7, 1);
         frame.occupy(2);
-        expect(frame, "taken, both run over", 2, 0, 1, 7, 5);
+        frame.vacate(0);
         frame.vacate(1);
-        expect(frame, "taken, one let go", 2, 0, 1, 6, 4);
         frame.vacate(2);
-        expect(frame, "free again", 0, 0, 0, 0, 0);
+        Check.is("free again", frame.about(0, 1), 0);
+        frame.request(0);
+        Check.is("set again", frame.about(0, 1), 0);
+        frame.cancel(0);
+        frame.tick(4);
+        Check.is("free by time", frame.about(0, 1), 0);
     }
 
-    private static void approachedFromThenOn() {
+    private static void approached() {
+        RouteFrame frame = Layout.junction();
+        Check.is("free", frame.about(0, 2), 0);
+        frame.request(0);
+        Check.is("set", frame.about(0, 2), 0);
+        frame.occupy(0);
+        Check.is("approached", frame.about(0, 2), 1);
+    }
+
+    private static void held() {
         RouteFrame frame = Layout.junction();
         frame.request(0);
-        frame.occupy(0);
-        frame.vacate(0);
-        Check.is("approached after the train is gone", frame.about(0, Layout.APPROACHED), 1);
-        frame.breakPoints(4, true);
-        Check.is("approached with the signal on again", frame.about(0, Layout.APPROACHED), 1);
-        frame.clear();
-        frame.section(false);
-        frame.route(0, RouteFrame.NONE, 1);
-        frame.use(0, 0, 0);
-        frame.request(0);
-        Check.is("without approach, approached at once", frame.about(0, Layout.APPROACHED), 1);
+        Check.is("all three", frame.about(0, 3), 1 + 2 + 4);
+        frame.occupy(1);
+        frame.occupy(2);
+        frame.vacate(1);
+        Check.is("without the first", frame.about(0, 3), 2 + 4);
     }
 
-    private static void notApproachedWhileTheSignalIsOn() {
-        RouteFrame frame = Layout.junction();
-        frame.occupy(0);
-        Check.is("a free route", frame.about(0, Layout.APPROACHED), 0);
-        frame.breakPoints(4, true);
+    private static void noneOrAllHeld() {
+        RouteFrame frame = Layout.sixUses();
+        Check.is("free", frame.about(0, 3), 0);
         frame.request(0);
-        Check.is("the signal is on", frame.about(0, Layout.APPROACHED), 0);
-        frame.vacate(0);
-        frame.breakPoints(4, false);
-        Check.is("the train is gone when it is off", frame.about(0, Layout.APPROACHED), 0);
-        frame.occupy(0);
-        Check.is("off, and the train comes", frame.about(0, Layout.APPROACHED), 1);
+        int held = 63;
+        Check.is("set", frame.about(0, 3), held);
+        for (int s = 0; s < 6; s++) {
+            frame.occupy(s);
+            frame.vacate(s);
+            held -= 1 << s;
+            Check.is("behind " + s, frame.about(0, 3), held);
+        }
     }
 
-    private static void wrongInputs() {
-        int big = Integer.MAX_VALUE;
-        int small = Integer.MIN_VALUE;
-        for (int none : new int[] {-1, 2, 8, small, big}) {
+    private static void runOver() {
+        RouteFrame frame = Layout.sixUses();
+        Check.is("free", frame.about(0, 4), 0);
+        frame.request(0);
+        Check.is("set", frame.about(0, 4), 0);
+        int over = 0;
+        for (int s = 5; s >= 0; s--) {
+            frame.occupy(s);
+            over += 1 << s;
+            Check.is("with " + s, frame.about(0, 4), over);
+        }
+    }
+
+    private static void runOverAndLetGo() {
+        RouteFrame frame = Layout.line();
+        frame.request(0);
+        frame.occupy(0);
+        frame.occupy(1);
+        Check.is("both are run over", frame.about(0, 4), 3);
+        frame.vacate(0);
+        Check.is("the first is let go", frame.about(0, 4), 2);
+        frame.vacate(1);
+        Check.is("the second is let go", frame.about(0, 4), 0);
+        Check.is("still taken", frame.about(0, 0), Layout.TAKEN);
+    }
+
+    private static void ofEach() {
+        RouteFrame frame = Layout.busy();
+        int[][] due = {
+            {2, 0, 1, 6, 2}, {1, 0, 0, 3, 0}, {3, 5, 1, 1, 0}, {0, 0, 0, 0, 0},
+            {0, 0, 0, 0, 0}, {0, 0, 0, 0, 0}, {0, 0, 0, 0, 0}, {1, 0, 1, 1, 0},
+        };
+        for (int r = 0; r < 8; r++) {
+            for (int what = 0; what <= 4; what++) {
+                Check.is("about(" + r + ", " + what + ")", frame.about(r, what), due[r][what]);
+            }
+        }
+    }
+
+    private static void noSuchRoute() {
+        for (int none : Outside.of(0, 1)) {
             RouteFrame frame = Layout.junction();
+            for (int what = 0; what <= 4; what++) {
+                int asked = what;
+                Check.raisesIndex("about(" + none + ", " + what + ")", () -> frame.about(none, asked));
+            }
             Check.refusesIndex("about(" + none + ", 0)", frame, () -> frame.about(none, 0));
-            Check.refusesIndex("about(" + none + ", 5)", frame, () -> frame.about(none, 5));
         }
-        for (int what : new int[] {-1, 5, small, big}) {
-            RouteFrame frame = Layout.junction();
-            Check.refusesArgument("about(0, " + what + ")", frame, () -> frame.about(0, what));
+        RouteFrame full = Layout.full();
+        for (int none : Outside.of(0, 7)) {
+            Check.raisesIndex("about(" + none + ", 0) of 8", () -> full.about(none, 0));
         }
     }
 
-    private static void expect(RouteFrame frame, String when, int... due) {
-        for (int what = 0; what <= 4; what++) {
-            Check.is(when + ", about(0, " + what + ")", frame.about(0, what), due[what]);
+    private static void noSuchWhat() {
+        for (int what : Outside.of(0, 4)) {
+            RouteFrame frame = Layout.junction();
+            frame.request(0);
+            Check.refusesArgument("about(0, " + what + ")", frame, () -> frame.about(0, what));
+            Check.raisesArgument("about(1, " + what + ")", () -> frame.about(1, what));
+        }
+    }
+
+    private static void askingChangesNothing() {
+        for (int w = 0; w <= 4; w++) {
+            int what = w;
+            for (int r = 0; r <= 2; r++) {
+                int route = r;
+                Life.ofABusyFrameIsNotChangedBy("about(" + r + ", " + w + ")", frame -> frame.about(route, what));
+            }
         }
     }
 }

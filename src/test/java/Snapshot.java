@@ -1,4 +1,4 @@
-/** All that the queries tell of a frame, as one text. */
+/** All that the queries tell of a frame, as one text; of a full frame it takes some 180 calls. */
 final class Snapshot {
     private Snapshot() {
     }
@@ -20,7 +20,7 @@ final class Snapshot {
                 text.append(' ').append(frame.about(r, what));
             }
             text.append(" clashes");
-            for (int other = 0; other < routes; other++) {
+            for (int other = 0; other < r; other++) {
                 text.append(frame.clash(r, other) ? " 1" : " 0");
             }
             text.append('\n');
